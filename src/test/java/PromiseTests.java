@@ -1,3 +1,6 @@
+import java.util.List;
+import java.util.function.ToIntFunction;
+
 /** For each promise of the document, calls with the answers that are due, worked out by hand. */
 public final class PromiseTests {
     private static final int INVALID = -1;
@@ -38,7 +41,11 @@ public final class PromiseTests {
         waitingLines();
         setsOfLines();
         numbers();
+        aFullBoard();
         theHistory();
+        changesAreKept();
+        eachChangeIsKept();
+        waitsAreKept();
         typing();
         emptying();
         faults();
@@ -716,6 +723,11 @@ public final class PromiseTests {
         order(x, 3, 0, 4);
         x.threshold(5);
         order(x);
+        x.threshold(0);
+        x.maskNode(2, 1);
+        order(x, 0);
+        x.maskNode(1, 1);
+        order(x);
         LampRanks y = ofRanks(1, 2, 3, 4, 5, 6, 6);
         for (int line = 0; line < 4; line++) {
             y.edge(line);
@@ -872,6 +884,43 @@ public final class PromiseTests {
         x.take();
         due(2, x.count(6));
         due(1, x.count(5));
+        LampRanks y = new LampRanks();
+        y.line(0, 1, 1);
+        y.level(0, 1);
+        due(0, y.count(5));
+    }
+
+    /** With 16 lines and 6 nodes all is told, and no call throws. */
+    private static void aFullBoard() {
+        promise(21);
+        LampRanks x = new LampRanks();
+        for (int node = 1; node < 6; node++) {
+            x.node(node - 1, 1);
+        }
+        for (int line = 0; line < 16; line++) {
+            x.line(5, line % 8, line < 8 ? 0 : 1);
+        }
+        for (int line = 0; line < 8; line++) {
+            due(1, x.edge(line));
+            due(2 * line + 2, x.level(8 + line, 1));
+        }
+        for (int what = 0; what <= 5; what++) {
+            due(what < 2 ? 65535 : 0, x.lines(what));
+        }
+        int[] due = {6, 16, 0, 8, 0, 8, 0, 0, 0, 3, 0, 4, 0};
+        for (int what = 0; what < due.length; what++) {
+            due(due[what], x.count(what));
+        }
+        due(7, x.take());
+        due(NOT_FOUND, x.orderAt(0));
+        due(16, x.maskNode(5, 1));
+        due(65535, x.lines(5));
+        due(16, x.nodeOf(5, 4));
+        due(65535 - 128, x.nodeOf(0, 5));
+        for (int line = 0; line < 16; line++) {
+            due(line + 1, x.mask(line, 1));
+        }
+        due(65535, x.lines(4));
     }
 
     private static void theHistory() {
@@ -883,7 +932,6 @@ public final class PromiseTests {
         due(0, x.count(1));
         due(NOT_FOUND, x.inputAt(0, 0));
         due(NOT_POSSIBLE, x.undo());
-        changesAreKept();
         x.node(0, 0);
         for (int ticks = 1; ticks <= 6; ticks++) {
             x.tick(ticks);
@@ -910,7 +958,6 @@ public final class PromiseTests {
         due(0, x.undo());
     }
 
-    /** Each kind of change is taken back, with all that it changed. */
     private static void changesAreKept() {
         LampRanks x = new LampRanks();
         x.node(0, 1);
@@ -983,6 +1030,67 @@ public final class PromiseTests {
         due(0, x.lineOf(3, 2));
     }
 
+    /** Each kind of change records what was just before it, whatever was recorded before. */
+    private static void eachChangeIsKept() {
+        List<ToIntFunction<LampRanks>> changes = List.of(
+                x -> x.node(0, 1), x -> x.line(0, 1, 0), x -> x.edge(0), x -> x.level(2, 1),
+                x -> x.mask(0, 1), x -> x.maskNode(0, 1), x -> x.threshold(2), x -> x.late(2), LampRanks::take,
+                LampRanks::done, x -> x.tick(1), LampRanks::play);
+        for (ToIntFunction<LampRanks> change : changes) {
+            LampRanks x = ofRanks(1, 4);
+            x.line(0, 2, 1);
+            x.edge(0);
+            x.take();
+            x.edge(1);
+            for (int k = 0; k < 4; k++) {
+                x.tick(1);
+            }
+            x.undo();
+            x.undo();
+            x.tick(7);
+            due(3, x.count(11));
+            due(1, change.applyAsInt(x) >= 0 ? 1 : 0);
+            due(4, x.count(11));
+            due(3, x.undo());
+            due(9, x.count(2));
+            due(0, x.serviceAt(0));
+            due(2, x.lines(0));
+            due(2, x.undo());
+            due(2, x.count(2));
+        }
+    }
+
+    private static void waitsAreKept() {
+        promise(22);
+        LampRanks x = ofRanks(3, 1);
+        x.late(0);
+        x.edge(0);
+        x.tick(2);
+        x.take();
+        x.done();
+        x.edge(0);
+        x.tick(9);
+        x.take();
+        due(9, x.lineOf(0, 10));
+        x.undo();
+        due(2, x.lineOf(0, 10));
+        x.undo();
+        x.tick(3);
+        x.undo();
+        x.tick(4);
+        due(2, withText(x, "x;t5;").play());
+        due(4, x.lineOf(0, 10));
+        x.late(20);
+        x.done();
+        x.tick(6);
+        due(0, withText(x, "").play());
+        due(14, x.lineOf(0, 11));
+        x.undo();
+        due(14, x.lineOf(0, 11));
+        x.undo();
+        due(20, x.lineOf(0, 11));
+    }
+
     private static void typing() {
         promise(23);
         LampRanks x = new LampRanks();
@@ -1015,6 +1123,11 @@ public final class PromiseTests {
         due(0, x.count(3));
         type(x, "m");
         due(0, x.fault(0));
+        // What was typed before the text was emptied isn't read any more.
+        withText(x, "e0;");
+        withText(x, "e0");
+        due(0, x.fault(0));
+        due(1, x.fault(1));
     }
 
     private static void faults() {
@@ -1028,6 +1141,8 @@ public final class PromiseTests {
         due(0, x.count(3));
         due(3, x.count(11));
         due(11, x.clearText());
+        due(NOT_FOUND, x.fault(0));
+        due(NOT_FOUND, x.fault(1));
         due(INVALID, x.fault(2));
         for (String text : new String[] {
             "", "e0;", "e00;", "t1;t01;t99;", "l2,1;", "l02,01;l2,00;", "m1,1;m01,00;", "e1;x;d;t3;"
@@ -1110,5 +1225,8 @@ public final class PromiseTests {
         due(19, x.count(4));
         due(1, withText(x, "x;").play());
         due(0, x.serviceAt(0));
+        x.late(20);
+        due(1, withText(x, "d;").play());
+        due(20, x.lineOf(0, 11));
     }
 }
