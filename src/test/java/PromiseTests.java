@@ -42,6 +42,8 @@ public final class PromiseTests {
         setsOfLines();
         numbers();
         aFullBoard();
+        allInputsOnOneNode();
+        allAcknowledgesAtOnce();
         theHistory();
         changesAreKept();
         eachChangeIsKept();
@@ -921,6 +923,62 @@ public final class PromiseTests {
             due(line + 1, x.mask(line, 1));
         }
         due(65535, x.lines(4));
+    }
+
+    /** One node can have all 16 lines and the 5 other nodes as its inputs. */
+    private static void allInputsOnOneNode() {
+        promise(10);
+        LampRanks x = new LampRanks();
+        for (int node = 1; node < 6; node++) {
+            x.node(0, 0);
+        }
+        for (int line = 0; line < 16; line++) {
+            due(line, x.line(0, 2, 0));
+        }
+        due(21, x.nodeOf(0, 2));
+        due(101, x.inputAt(0, 0));
+        due(15, x.inputAt(0, 20));
+        due(NOT_FOUND, x.inputAt(0, 21));
+        x.edge(15);
+        due(15, x.next());
+        due(15, x.orderAt(0));
+        due(15, x.take());
+        // The same on a turning node, which has at most 16 lines and 4 nodes; its order turns.
+        LampRanks y = new LampRanks();
+        y.node(0, 1);
+        for (int node = 2; node < 6; node++) {
+            y.node(1, 0);
+        }
+        for (int line = 0; line < 16; line++) {
+            y.line(1, 2, 0);
+        }
+        y.edge(0);
+        due(0, y.take());
+        due(20, y.nodeOf(1, 2));
+        due(0, y.inputAt(1, 19));
+        due(1, y.inputAt(1, 4));
+        due(105, y.inputAt(1, 3));
+    }
+
+    private static void allAcknowledgesAtOnce() {
+        promise(15);
+        LampRanks x = new LampRanks();
+        x.late(50);
+        for (int line = 0; line < 16; line++) {
+            x.line(0, 2, 0);
+            x.edge(line);
+            due(line, x.take());
+            due(line, x.done());
+        }
+        due(65535, x.lines(3));
+        for (int index = 0; index < 16; index++) {
+            due(index, x.waitingAt(index));
+        }
+        due(NOT_FOUND, x.waitingAt(16));
+        due(0, x.tick(49));
+        due(16, x.tick(1));
+        due(0, x.lines(3));
+        due(16, x.count(10));
     }
 
     private static void theHistory() {
