@@ -15,19 +15,25 @@ final class PromiseSentences extends Sentences {
                 PromiseSentences::aNewBoard);
         test("Promise 2", "on: number of the node on which it hangs", PromiseSentences::onWhichItHangs);
         test("Promise 2", "turning: 1 if it is turning, 0 if it is fixed", PromiseSentences::turningOrFixed);
+        test("Promise 2", "Returns its number", PromiseSentences::numbersOfNodes);
         test("Promise 2", "INVALID_ARGUMENT if an argument is out of range; LIMIT_REACHED if there are 6.",
                 PromiseSentences::sixNodes);
         test("Promise 3", "on: number of the node", PromiseSentences::nodeOfALine);
         test("Promise 3", "rank: 0 to 7", PromiseSentences::rankOfALine);
         test("Promise 3", "level: 0 for edges, 1 for a level", PromiseSentences::kindOfALine);
+        test("Promise 3", "Returns its number", PromiseSentences::numbersOfLines);
         test("Promise 3", "INVALID_ARGUMENT if an argument is out of range; LIMIT_REACHED if there are 16.",
                 PromiseSentences::sixteen);
     }
 
     private static void settings() {
+        test("Promise 4", "line: number of the line", PromiseSentences::lineToMask);
+        test("Promise 4", "is: 1 or 0", PromiseSentences::maskIs);
         test("Promise 4", "INVALID_ARGUMENT if an argument is out of range", PromiseSentences::maskOutOfRange);
         test("Promise 4", "Returns how many lines are masked then", PromiseSentences::howManyMasked);
         test("Promise 4", "NOT_POSSIBLE if it is so already.", PromiseSentences::maskedAlready);
+        test("Promise 5", "node: number of the node", PromiseSentences::nodeToMask);
+        test("Promise 5", "is: 1 or 0", PromiseSentences::nodeMaskIs);
         test("Promise 5", "INVALID_ARGUMENT if an argument is out of range", PromiseSentences::maskNodeOutOfRange);
         test("Promise 5", "Returns how many lines have this node on their way", PromiseSentences::howManyBelow);
         test("Promise 5", "NOT_POSSIBLE if it is so already.", PromiseSentences::nodeMaskedAlready);
@@ -41,6 +47,7 @@ final class PromiseSentences extends Sentences {
     }
 
     private static void whatIsTold() {
+        test("Promise 8", "line: number of the line", PromiseSentences::lineToTell);
         test("Promise 8", "INVALID_ARGUMENT if an argument is out of range", PromiseSentences::lineOfOutOfRange);
         test("Promise 8", "0: its node; 1: its rank; 2: 0 if it is one of edges, 1 of a level; 3: 1 if it is lit,"
                 + " otherwise 0", PromiseSentences::whatALineIs);
@@ -55,6 +62,8 @@ final class PromiseSentences extends Sentences {
         test("Promise 8", "NOT_FOUND for 10 if it is one of a level or was never taken",
                 PromiseSentences::noLongestWait);
         test("Promise 8", "for 11 if it waits for none.", PromiseSentences::noTicksLeft);
+        test("Promise 9", "node: number of the node", PromiseSentences::nodeToTell);
+        test("Promise 9", "0: the node on which it hangs", PromiseSentences::nodeAbove);
         test("Promise 9", "INVALID_ARGUMENT if an argument is out of range", PromiseSentences::nodeOfOutOfRange);
         test("Promise 9", "NOT_FOUND for 0 of node 0.", PromiseSentences::noNodeAbove);
         test("Promise 9", "1: 1 if it is turning, otherwise 0", PromiseSentences::turningNodes);
@@ -62,6 +71,7 @@ final class PromiseSentences extends Sentences {
         test("Promise 9", "3: 1 if it is masked, otherwise 0", PromiseSentences::maskedNodes);
         test("Promise 9", "4: how many lines have it on their way; 5: the set of these that are lit",
                 PromiseSentences::litBelow);
+        test("Promise 10", "node: number of the node", PromiseSentences::nodeOfInputs);
         test("Promise 10", "index: 0 for the first one in its order, and so on", PromiseSentences::firstInput);
         test("Promise 10", "Returns the number of the line, or 100 plus the number of the node",
                 PromiseSentences::numbersOfInputs);
@@ -71,22 +81,29 @@ final class PromiseSentences extends Sentences {
     }
 
     private static void events() {
+        test("Promise 11", "line: number of the line", PromiseSentences::lineOfEdge);
         test("Promise 11", "Returns 1 if the line becomes lit by it, 0 if it is lost", PromiseSentences::litOrLost);
         test("Promise 11", "INVALID_ARGUMENT; NOT_POSSIBLE if the line is one of a level.",
                 PromiseSentences::edgeOfALevel);
         test("Promise 12", "Returns how many lines of both kinds are lit then", PromiseSentences::howManyLit);
+        test("Promise 12", "line: number of the line", PromiseSentences::lineOfLevel);
         test("Promise 12", "level: 0 or 1", PromiseSentences::levelRange);
+        test("Promise 12", "INVALID_ARGUMENT if an argument is out of range", PromiseSentences::levelOutOfRange);
         test("Promise 12", "NOT_POSSIBLE if the line is one of edges, or its level is so already.",
                 PromiseSentences::levelSoAlready);
+        test("Promise 13", "Returns its number", PromiseSentences::numbersTaken);
         test("Promise 13", "LIMIT_REACHED if 4 lines are in service", PromiseSentences::fourAreInService);
         test("Promise 13", "NOT_FOUND if no line is ready.", PromiseSentences::noneToTake);
+        test("Promise 14", "Returns its number", PromiseSentences::numbersDone);
         test("Promise 14", "NOT_POSSIBLE if none is in service.", PromiseSentences::noneToBeDone);
         test("Promise 15", "ticks: 1 to 99", PromiseSentences::tickRange);
+        test("Promise 15", "INVALID_ARGUMENT if ticks is out of range", PromiseSentences::tickOutOfRange);
         test("Promise 15", "Returns how many acknowledges come", PromiseSentences::howManyCome);
         test("Promise 15", "LIMIT_REACHED if the time would be above 50000.", PromiseSentences::lastTime);
     }
 
     private static void whoIsNext() {
+        test("Promise 16", "Returns its number", PromiseSentences::numbersNext);
         test("Promise 16", "(however many are in service).", PromiseSentences::nextOfFour);
         test("Promise 16", "NOT_FOUND if no line is ready.", PromiseSentences::noNext);
         test("Promise 17", "(however many are in service)", PromiseSentences::orderOfFour);
@@ -129,6 +146,8 @@ final class PromiseSentences extends Sentences {
 
     private static void texts() {
         test("Promise 23", "character: 32 to 126", PromiseSentences::characterRange);
+        test("Promise 23", "Returns the length of the text", PromiseSentences::lengthOfText);
+        test("Promise 23", "INVALID_ARGUMENT if character is out of range", PromiseSentences::characterOutOfRange);
         test("Promise 23", "LIMIT_REACHED if it has 60 characters.", PromiseSentences::sixtyCharacters);
         test("Promise 24", "Returns the length it had.", PromiseSentences::lengthItHad);
         test("Promise 25", "INVALID_ARGUMENT if what is out of range", PromiseSentences::faultOutOfRange);
@@ -192,6 +211,36 @@ final class PromiseSentences extends Sentences {
         due(0, x.nodeOf(2, 1));
     }
 
+    private static void numbersOfNodes() {
+        LampRanks x = new LampRanks();
+        due(1, x.node(0, 0));
+        x.line(1, 1, 0);
+        due(2, x.node(1, 1));
+        x.undo();
+        // The number of one that was undone is used again.
+        due(2, x.node(0, 0));
+        due(INVALID, x.node(3, 0));
+        for (int number = 3; number <= 5; number++) {
+            due(number, x.node(0, 0));
+        }
+        due(6, x.count(0));
+    }
+
+    private static void numbersOfLines() {
+        LampRanks x = new LampRanks();
+        due(0, x.line(0, 7, 0));
+        x.node(0, 0);
+        due(1, x.line(1, 0, 1));
+        x.undo();
+        due(1, x.line(0, 3, 0));
+        due(3, x.lineOf(1, 1));
+        due(INVALID, x.line(0, 8, 0));
+        for (int number = 2; number <= 15; number++) {
+            due(number, x.line(number % 2, number % 8, number % 2));
+        }
+        due(16, x.count(1));
+    }
+
     private static void sixNodes() {
         LampRanks x = new LampRanks();
         for (int node = 1; node <= 5; node++) {
@@ -242,7 +291,6 @@ final class PromiseSentences extends Sentences {
 
     private static void sixteen() {
         LampRanks x = sixteenLines(1);
-        due(15, x.lineOf(15, 7) + 15);
         due(LIMIT, x.line(0, 0, 0));
         due(LIMIT, x.line(0, 7, 1));
         due(INVALID, x.line(0, -1, 0));
@@ -257,14 +305,33 @@ final class PromiseSentences extends Sentences {
         due(LIMIT, x.line(0, 0, 0));
     }
 
-    private static void maskOutOfRange() {
-        LampRanks x = ofRanks(1, 2);
-        each(INVALID, outside(0, 1), line -> x.mask(line, 1));
-        each(INVALID, outside(0, 1), line -> x.mask(line, 0));
+    private static void lineToMask() {
+        due(INVALID, new LampRanks().mask(0, 1));
+        LampRanks x = sixteenLines(1);
+        each(INVALID, outside(0, 15), line -> x.mask(line, 1));
+        due(0, x.lines(4));
+        due(1, x.mask(15, 1));
+        due(2, x.mask(0, 1));
+        due(32769, x.lines(4));
+    }
+
+    private static void maskIs() {
+        LampRanks x = ofRanks(1);
         each(INVALID, outside(0, 1), is -> x.mask(0, is));
         due(0, x.lines(4));
-        due(1, x.mask(1, 1));
-        due(2, x.lines(4));
+        due(1, x.mask(0, 1));
+        each(INVALID, outside(0, 1), is -> x.mask(0, is));
+        due(1, x.lines(4));
+        due(0, x.mask(0, 0));
+    }
+
+    private static void maskOutOfRange() {
+        LampRanks x = ofRanks(1, 2);
+        each(INVALID, outside(0, 1), line -> x.mask(line, 0));
+        each(INVALID, outside(0, 1), line -> x.mask(line, 2));
+        each(INVALID, outside(0, 1), is -> x.mask(2, is));
+        due(0, x.lines(4));
+        due(2, x.count(11));
     }
 
     private static void howManyMasked() {
@@ -299,16 +366,35 @@ final class PromiseSentences extends Sentences {
         due(NOT_POSSIBLE, x.mask(0, 1));
     }
 
+    private static void nodeToMask() {
+        LampRanks x = chain(0);
+        x.line(5, 1, 0);
+        each(INVALID, outside(0, 5), node -> x.maskNode(node, 1));
+        due(0, x.lines(5));
+        due(1, x.maskNode(5, 1));
+        due(1, x.maskNode(0, 1));
+        due(1, x.nodeOf(5, 3) & x.nodeOf(0, 3));
+    }
+
+    private static void nodeMaskIs() {
+        LampRanks x = new LampRanks();
+        each(INVALID, outside(0, 1), is -> x.maskNode(0, is));
+        due(0, x.nodeOf(0, 3));
+        due(0, x.maskNode(0, 1));
+        each(INVALID, outside(0, 1), is -> x.maskNode(0, is));
+        due(1, x.nodeOf(0, 3));
+        due(0, x.maskNode(0, 0));
+        due(0, x.nodeOf(0, 3));
+    }
+
     private static void maskNodeOutOfRange() {
         LampRanks x = new LampRanks();
         x.node(0, 0);
-        each(INVALID, outside(0, 1), node -> x.maskNode(node, 1));
         each(INVALID, outside(0, 1), node -> x.maskNode(node, 0));
-        each(INVALID, outside(0, 1), is -> x.maskNode(1, is));
-        due(0, x.nodeOf(0, 3));
-        due(0, x.nodeOf(1, 3));
-        due(0, x.maskNode(1, 1));
-        due(1, x.nodeOf(1, 3));
+        each(INVALID, outside(0, 1), node -> x.maskNode(node, 2));
+        each(INVALID, outside(0, 1), is -> x.maskNode(2, is));
+        due(0, x.nodeOf(0, 3) + x.nodeOf(1, 3));
+        due(1, x.count(11));
     }
 
     private static void howManyBelow() {
@@ -405,6 +491,15 @@ final class PromiseSentences extends Sentences {
         due(50, x.late(50));
         due(50, x.late(0));
         due(0, x.late(0));
+    }
+
+    private static void lineToTell() {
+        due(INVALID, new LampRanks().lineOf(0, 0));
+        LampRanks x = sixteenLines(7);
+        each(INVALID, outside(0, 15), line -> x.lineOf(line, 1));
+        for (int line = 0; line <= 15; line++) {
+            due(7, x.lineOf(line, 1));
+        }
     }
 
     private static void lineOfOutOfRange() {
@@ -605,6 +700,29 @@ final class PromiseSentences extends Sentences {
         due(NOT_FOUND, x.lineOf(0, 11));
     }
 
+    private static void nodeToTell() {
+        LampRanks x = chain(1);
+        x.line(5, 1, 0);
+        each(INVALID, outside(0, 5), node -> x.nodeOf(node, 2));
+        for (int node = 0; node <= 5; node++) {
+            due(1, x.nodeOf(node, 2));
+        }
+        due(INVALID, new LampRanks().nodeOf(1, 2));
+    }
+
+    private static void nodeAbove() {
+        LampRanks x = new LampRanks();
+        int[] on = {0, 0, 2, 1, 4};
+        for (int node = 1; node <= 5; node++) {
+            x.node(on[node - 1], 1);
+            due(on[node - 1], x.nodeOf(node, 0));
+        }
+        x.undo();
+        x.node(0, 0);
+        due(0, x.nodeOf(5, 0));
+        due(1, x.nodeOf(4, 0));
+    }
+
     private static void nodeOfOutOfRange() {
         LampRanks x = new LampRanks();
         x.node(0, 1);
@@ -706,6 +824,16 @@ final class PromiseSentences extends Sentences {
         due(15, x.nodeOf(5, 4));
     }
 
+    private static void nodeOfInputs() {
+        LampRanks x = chain(0);
+        x.line(5, 1, 0);
+        each(INVALID, outside(0, 5), node -> x.inputAt(node, 0));
+        due(INVALID, x.inputAt(105, 0));
+        due(101, x.inputAt(0, 0));
+        due(105, x.inputAt(4, 0));
+        due(0, x.inputAt(5, 0));
+    }
+
     private static void firstInput() {
         LampRanks x = new LampRanks();
         x.node(0, 1);
@@ -773,6 +901,16 @@ final class PromiseSentences extends Sentences {
         due(NOT_FOUND, most.inputAt(0, 16));
     }
 
+    private static void lineOfEdge() {
+        due(INVALID, new LampRanks().edge(0));
+        LampRanks x = sixteenLines(1);
+        each(INVALID, outside(0, 15), x::edge);
+        due(0, x.count(3));
+        due(1, x.edge(0));
+        due(1, x.edge(15));
+        due(32769, x.lines(0));
+    }
+
     private static void litOrLost() {
         LampRanks x = sixteenLines(1);
         for (int line : new int[] {0, 15}) {
@@ -824,16 +962,40 @@ final class PromiseSentences extends Sentences {
         due(15, x.level(3, 0));
     }
 
+    private static void lineOfLevel() {
+        due(INVALID, new LampRanks().level(0, 1));
+        LampRanks x = new LampRanks();
+        for (int line = 0; line <= 15; line++) {
+            x.line(0, 1, 1);
+        }
+        each(INVALID, outside(0, 15), line -> x.level(line, 1));
+        due(0, x.lines(0));
+        due(1, x.level(0, 1));
+        due(2, x.level(15, 1));
+        due(32769, x.lines(0));
+    }
+
     private static void levelRange() {
+        LampRanks x = new LampRanks();
+        x.line(0, 1, 1);
+        each(INVALID, outside(0, 1), level -> x.level(0, level));
+        due(0, x.lines(0));
+        due(1, x.level(0, 1));
+        each(INVALID, outside(0, 1), level -> x.level(0, level));
+        due(1, x.lines(0));
+        due(0, x.level(0, 0));
+    }
+
+    private static void levelOutOfRange() {
         LampRanks x = ofRanks(1);
         x.line(0, 1, 1);
-        each(INVALID, outside(0, 1), level -> x.level(1, level));
+        // Line 0 is one of edges, and the level of line 1 is 0 already.
         each(INVALID, outside(0, 1), level -> x.level(0, level));
         each(INVALID, outside(0, 1), line -> x.level(line, 0));
-        each(INVALID, outside(0, 1), line -> x.level(line, 1));
+        each(INVALID, outside(0, 1), line -> x.level(line, 2));
+        due(NOT_POSSIBLE, x.level(0, 1));
+        due(NOT_POSSIBLE, x.level(1, 0));
         due(1, x.level(1, 1));
-        each(INVALID, outside(0, 1), level -> x.level(1, level));
-        due(0, x.level(1, 0));
     }
 
     private static void levelSoAlready() {
@@ -854,6 +1016,22 @@ final class PromiseSentences extends Sentences {
         due(NOT_POSSIBLE, x.level(1, 1));
         due(1, x.level(1, 0));
         due(NOT_POSSIBLE, x.level(1, 0));
+    }
+
+    private static void numbersTaken() {
+        LampRanks x = sixteenLines(1);
+        x.late(0);
+        for (int line = 15; line >= 0; line--) {
+            x.edge(line);
+            due(line, x.take());
+            x.done();
+        }
+        edges(x, 15, 0, 7);
+        due(0, x.take());
+        x.done();
+        due(7, x.take());
+        x.done();
+        due(15, x.take());
     }
 
     private static void fourAreInService() {
@@ -898,6 +1076,22 @@ final class PromiseSentences extends Sentences {
         due(2, x.count(6));
     }
 
+    private static void numbersDone() {
+        LampRanks x = sixteenLines(1);
+        edges(x, 0, 15);
+        x.take();
+        due(0, x.done());
+        x.take();
+        due(15, x.done());
+        LampRanks y = ofRanks(4, 2);
+        edges(y, 1);
+        y.take();
+        edges(y, 0, 1);
+        y.take();
+        due(0, y.done());
+        due(1, y.done());
+    }
+
     private static void noneToBeDone() {
         LampRanks x = ofRanks(1);
         due(NOT_POSSIBLE, x.done());
@@ -919,15 +1113,24 @@ final class PromiseSentences extends Sentences {
 
     private static void tickRange() {
         LampRanks x = new LampRanks();
-        each(INVALID, outside(1, 99), x::tick);
-        due(INVALID, x.tick(0));
-        due(0, x.count(2));
         due(0, x.tick(1));
         due(1, x.count(2));
         due(0, x.tick(99));
         due(100, x.count(2));
+        due(0, x.tick(2));
+        due(0, x.tick(98));
+        due(200, x.count(2));
+    }
+
+    private static void tickOutOfRange() {
+        LampRanks x = new LampRanks();
+        each(INVALID, outside(1, 99), x::tick);
+        due(INVALID, x.tick(0));
+        due(0, x.count(2));
+        due(0, x.count(11));
         LampRanks last = atTime(50000);
         each(INVALID, outside(1, 99), last::tick);
+        due(50000, last.count(2));
     }
 
     private static void howManyCome() {
@@ -987,6 +1190,18 @@ final class PromiseSentences extends Sentences {
         due(2, y.lineOf(0, 4));
         due(1, y.edge(0));
         due(NOT_FOUND, y.take());
+    }
+
+    private static void numbersNext() {
+        LampRanks x = sixteenLines(1);
+        for (int line = 15; line >= 0; line--) {
+            x.edge(line);
+            due(line, x.next());
+        }
+        for (int line = 0; line <= 14; line++) {
+            x.mask(line, 1);
+            due(line + 1, x.next());
+        }
     }
 
     private static void nextOfFour() {
@@ -1533,22 +1748,38 @@ final class PromiseSentences extends Sentences {
 
     private static void characterRange() {
         LampRanks x = new LampRanks();
-        each(INVALID, outside(32, 126), x::type);
-        due(INVALID, x.type(0));
-        due(INVALID, x.type('e' + 65536));
-        due(0, x.count(12));
-        due(1, x.type(32));
-        due(2, x.type(126));
-        due(3, x.type(33));
-        due(4, x.type(125));
+        for (int character = 32; character <= 126; character++) {
+            due(1, x.type(character));
+            due(1, x.count(12));
+            x.clearText();
+        }
         fault(x, " ", 0, 1);
         fault(x, "~", 0, 1);
-        // Every character within the range is taken.
-        LampRanks y = new LampRanks();
-        for (int character = 32; character <= 126; character++) {
-            due(1, y.type(character));
-            y.clearText();
+    }
+
+    private static void lengthOfText() {
+        LampRanks x = new LampRanks();
+        for (int length = 1; length <= 60; length++) {
+            due(length, x.type(' '));
+            due(length, x.count(12));
         }
+        x.clearText();
+        due(1, x.type(' '));
+    }
+
+    private static void characterOutOfRange() {
+        LampRanks x = new LampRanks();
+        each(INVALID, outside(32, 126), x::type);
+        due(INVALID, x.type(0));
+        due(INVALID, x.type(10));
+        // A char would take these for a letter and for ";".
+        due(INVALID, x.type('e' + 65536));
+        due(INVALID, x.type(';' - 65536));
+        due(0, x.count(12));
+        withText(x, "t1;");
+        each(INVALID, outside(32, 126), x::type);
+        due(3, x.count(12));
+        due(1, x.play());
     }
 
     private static void sixtyCharacters() {

@@ -23,6 +23,7 @@ final class TermSentences extends Sentences {
         test(section, "There are at most 16 lines, numbered from 0", TermSentences::mostLines);
         test(section, "with a rank (0 to 7)", TermSentences::ranks);
         test(section, "of edges (0) or of a level (1).", TermSentences::kinds);
+        test(section, "What hangs on a node, lines and nodes, are its inputs", TermSentences::whatHangsOn);
         test(section, "they have an order, at first that in which they were added.", TermSentences::orderAtFirst);
         test(section, "The way of a line is its node, the node on which this hangs, and so on, up to node 0.",
                 TermSentences::ways);
@@ -49,6 +50,7 @@ final class TermSentences extends Sentences {
         test(section, "which goes through the inputs of node 0 in their order", TermSentences::inputsInOrder);
         test(section, "at an input that is a node it goes through its inputs in the same way, ahead of the next input.",
                 TermSentences::nodesAhead);
+        test(section, "To take the next line means: it is in service", TermSentences::isInService);
         test(section, "a line of edges is not lit any more", TermSentences::notLitAnyMore);
         test(section, "in each node on its way that is turning, the input by which the line is reached goes behind"
                 + " all others.", TermSentences::turns);
@@ -206,6 +208,25 @@ final class TermSentences extends Sentences {
         due(NOT_POSSIBLE, x.edge(1));
         due(1, x.edge(0));
         due(2, x.level(1, 1));
+    }
+
+    private static void whatHangsOn() {
+        LampRanks x = new LampRanks();
+        inputs(x, 0);
+        x.line(0, 1, 1);
+        inputs(x, 0, 0);
+        x.node(0, 0);
+        inputs(x, 0, 0, 101);
+        inputs(x, 1);
+        x.node(1, 0);
+        x.line(1, 1, 0);
+        inputs(x, 0, 0, 101);
+        inputs(x, 1, 102, 1);
+        inputs(x, 2);
+        x.undo();
+        inputs(x, 1, 102);
+        x.undo();
+        inputs(x, 1);
     }
 
     private static void orderAtFirst() {
@@ -506,6 +527,25 @@ final class TermSentences extends Sentences {
         z.line(0, 0, 0);
         z.edge(0);
         due(0, z.next());
+    }
+
+    private static void isInService() {
+        LampRanks x = litOfRanks(0, 7);
+        x.mask(1, 1);
+        due(0, x.take());
+        due(1, x.lineOf(0, 4));
+        due(0, x.lineOf(1, 4));
+        due(0, x.serviceAt(0));
+        x.mask(1, 0);
+        due(1, x.take());
+        due(1, x.lineOf(0, 4));
+        due(1, x.lineOf(1, 4));
+        due(1, x.serviceAt(0));
+        due(0, x.serviceAt(1));
+        due(1, x.lineOf(0, 9));
+        due(1, x.lineOf(1, 9));
+        due(NOT_FOUND, x.take());
+        due(3, x.lines(2));
     }
 
     private static void notLitAnyMore() {
