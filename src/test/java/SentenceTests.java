@@ -21,6 +21,10 @@ public final class SentenceTests {
     static void all() {
         TermSentences.all();
         ChangeSentences.all();
-        PromiseSentences.all();
+        BuildSentences.all();
+        TellSentences.all();
+        EventSentences.all();
+        NextSentences.all();
+        TextSentences.all();
     }
 }
