@@ -316,8 +316,12 @@ public final class LampRanks {
         /** The time when its acknowledge comes. */
         private int dueAt;
 
+        /** The set of the nodes on its way. */
+        private int way;
+
         void copyFrom(Line other) {
             node = other.node;
+            way = other.way;
             rank = other.rank;
             ofLevel = other.ofLevel;
             lit = other.lit;
@@ -428,6 +432,7 @@ public final class LampRanks {
             int number = lineCount;
             Line line = lines[number];
             line.node = on;
+            line.way = nodes[on].way;
             line.rank = rank;
             line.ofLevel = level == 1;
             Row inputs = nodes[on].inputs;
@@ -645,7 +650,7 @@ public final class LampRanks {
 
         private boolean isMasked(int number) {
             Line line = lines[number];
-            return line.masked || (nodes[line.node].way & maskedNodes) != 0;
+            return line.masked || (line.way & maskedNodes) != 0;
         }
 
         // ---- sets of lines
@@ -695,7 +700,7 @@ public final class LampRanks {
         private int linesBelow(int node) {
             int set = 0;
             for (int k = 0; k < lineCount; k++) {
-                set |= (nodes[lines[k].node].way >> node & 1) << k;
+                set |= (lines[k].way >> node & 1) << k;
             }
             return set;
         }
@@ -861,7 +866,9 @@ public final class LampRanks {
         }
 
         void prepare(Board board) {
-            states[size].copyFrom(board);
+            if (size >= 0 && size < states.length) {
+                states[size].copyFrom(board);
+            }
         }
 
         /** Keeps what was prepared if the answer is no error, and gives the answer. */
@@ -876,7 +883,7 @@ public final class LampRanks {
         }
 
         int restore(Board board) {
-            if (size == 0) {
+            if (size < 1 || size > states.length) {
                 return NOT_POSSIBLE;
             }
             size--;

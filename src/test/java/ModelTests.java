@@ -2,7 +2,7 @@ import java.util.ArrayDeque;
 import java.util.Deque;
 import java.util.Random;
 
-/** Runs of calls, the same each time, on the program and on the model; all answers are compared. */
+/** Runs of calls, the same each time, and all short texts, on the program and on the model; all answers are compared. */
 public final class ModelTests {
     private static final int RUNS = 4000;
     private static final int CALLS = 512;
@@ -10,6 +10,8 @@ public final class ModelTests {
         -2147483648, -100, -2, -1, 0, 1, 2, 5, 6, 7, 8, 9, 12, 13, 15, 16, 50, 51, 99, 100, 105,
         127, 2147483647
     };
+
+    private static final String SIGNS = "eldxtm,;0129 ";
 
     private static int wrong = 0;
     private static final long[] answersBelowZero = new long[5];
@@ -37,6 +39,7 @@ public final class ModelTests {
         for (int seed = 0; seed < 40 && wrong < 10; seed++) {
             new ModelTests(seed).goToTheEndOfTime();
         }
+        allShortTexts();
         for (int error = 1; error <= 4; error++) {
             if (answersBelowZero[error] < 1000) {
                 wrong++;
@@ -78,6 +81,43 @@ public final class ModelTests {
             change();
             ask();
         }
+    }
+
+    /** The faults of all texts of up to five of the signs that have a meaning, and one that has none. */
+    private static void allShortTexts() {
+        ModelTests board = ofKinds();
+        for (int length = 0; length <= 5; length++) {
+            int texts = (int) Math.pow(SIGNS.length(), length);
+            for (int number = 0; number < texts && wrong < 10; number++) {
+                if (board.calls > CALLS - 8) {
+                    board = ofKinds();
+                }
+                board.faultsOf(number, length);
+            }
+        }
+    }
+
+    private void faultsOf(int number, int length) {
+        due("clearText()", program.clearText(), model.clearText());
+        for (int k = 0, rest = number; k < length; k++, rest /= SIGNS.length()) {
+            int sign = SIGNS.charAt(rest % SIGNS.length());
+            due("type(" + sign + ")", program.type(sign), model.type(sign));
+        }
+        due("fault(0)", program.fault(0), model.fault(0));
+        due("fault(1)", program.fault(1), model.fault(1));
+    }
+
+    /** Line 0 of edges is lit, line 1 of a level is masked, line 2 of edges is in service. */
+    private static ModelTests ofKinds() {
+        ModelTests it = new ModelTests(0);
+        it.due("line(0, 7, 0)", it.program.line(0, 7, 0), it.model.line(0, 7, 0));
+        it.due("line(0, 5, 1)", it.program.line(0, 5, 1), it.model.line(0, 5, 1));
+        it.due("line(0, 3, 0)", it.program.line(0, 3, 0), it.model.line(0, 3, 0));
+        it.due("mask(1, 1)", it.program.mask(1, 1), it.model.mask(1, 1));
+        it.due("edge(2)", it.program.edge(2), it.model.edge(2));
+        it.due("take()", it.program.take(), it.model.take());
+        it.due("edge(0)", it.program.edge(0), it.model.edge(0));
+        return it;
     }
 
     private void due(String call, int answer, int due) {
@@ -204,7 +244,7 @@ public final class ModelTests {
             int place = random.nextInt(text.length());
             switch (random.nextInt(3)) {
                 case 0 -> text.deleteCharAt(place);
-                case 1 -> text.insert(place, "eldxtm,;0129 ".charAt(random.nextInt(13)));
+                case 1 -> text.insert(place, SIGNS.charAt(random.nextInt(SIGNS.length())));
                 default -> text.setCharAt(place, (char) (32 + random.nextInt(95)));
             }
         }
